@@ -6,7 +6,7 @@ import java.util.List;
  * document: it derives every environment from its rounds and compares every set with every other.
  */
 public final class AssumptionKeeperAgainstModel {
-    private static final int RUNS = 400;
+    private static final int RUNS = 200;
     private static final int CALLS = 512;
 
     private static long seed = 20261118;
@@ -456,7 +456,7 @@ public final class AssumptionKeeperAgainstModel {
     private static int secondArgument(int kind, Model model, int soundness) {
         int nodes = Math.max(1, model.kinds.size());
         switch (kind) {
-            case 2: return odd(1 + pick(100));
+            case 2: return odd(1 + pick(pick(2) == 0 ? 3 : 100));
             case 3: return pick(1 + soundness) == 0 ? -1 : odd(pick(nodes));
             case 4: return pick(3);
             case 10: case 11: case 12: return odd(pick(model.all()));

@@ -1,4 +1,5 @@
 import java.util.Objects;
+import java.util.stream.LongStream;
 
 /** For each promise of the document the ordinary inputs, the edges that it names, and wrong inputs. */
 public final class AssumptionKeeperPromises {
@@ -551,6 +552,104 @@ public final class AssumptionKeeperPromises {
         due("32 and is back", want, keeper::digest);
     }
 
+    /** All limits at once: 9 assumptions, 15 statements, 40 rules, so that no row is read beyond its end. */
+    private static void theFullKeeper() {
+        AssumptionKeeper keeper = withAssumptions(1, 2, 3, 4, 5, 6, 7, 8, 9);
+        for (int node = 9; node < 24; node++) {
+            keeper.addStatement();
+        }
+        for (int rule = 0; rule < 38; rule++) {
+            keeper.addRule(set(0, 1, 2, 3, 4, 5, 6, 7, 8), 23);
+        }
+        keeper.addRule(set(23), 22);
+        keeper.addRule(set(22), 8);
+        due("full: cost", 45, () -> keeper.cost(511));
+        due("full: heldCount", 11, () -> keeper.heldCount(511));
+        due("full: depth", 2, () -> keeper.depth(22, 511));
+        due("full: support", 38, () -> keeper.support(22, 511));
+        due("full: no support", -2, () -> keeper.support(21, 511));
+        due("full: extend", 511, () -> keeper.extend(0));
+        due("full: label", 511, () -> keeper.label(23, 0));
+        due("full: no second in the label", INDEX, () -> keeper.label(23, 1));
+        due("full: cheapest", 511, () -> keeper.cheapest(23));
+        due("full: needed", 511, () -> keeper.needed(23));
+        due("full: needed of an empty label", 511, () -> keeper.needed(21));
+        due("full: useful", 511, () -> keeper.useful(23));
+        due("full: no nogood", INDEX, () -> keeper.nogood(0));
+        due("full: no second world", INDEX, () -> keeper.world(1));
+        due("full: worldsWith", 1, () -> keeper.worldsWith(23));
+        due("full: belief", 1.0 / 512.0, () -> keeper.belief(23));
+        due("full: implies", true, () -> keeper.implies(23, 0));
+        due("full: excludes", true, () -> keeper.excludes(21, 23));
+        due("full: digest", digestOfFullKeeper(), keeper::digest);
+        keeper.drop();
+        keeper.addRule(set(22), -1);
+        due("full: nogood", 511, () -> keeper.nogood(0));
+        due("full: worlds", 9, keeper::worldCount);
+        due("full: the last world", 510, () -> keeper.world(8));
+        due("full: no tenth world", INDEX, () -> keeper.world(9));
+        due("full: extend by the heavy ones", 510, () -> keeper.extend(0));
+        due("full: nothing of it is left", 0, () -> keeper.labelSize(23));
+    }
+
+    private static long digestOfFullKeeper() {
+        LongStream.Builder numbers = LongStream.builder().add(24);
+        for (int node = 0; node < 9; node++) {
+            numbers.add(node).add(1).add(1 << node);
+        }
+        for (int node = 9; node < 22; node++) {
+            numbers.add(-1).add(0);
+        }
+        numbers.add(-1).add(1).add(511).add(-1).add(1).add(511);
+        numbers.add(9);
+        for (int weight = 1; weight <= 9; weight++) {
+            numbers.add(weight);
+        }
+        numbers.add(40);
+        for (int rule = 0; rule < 38; rule++) {
+            numbers.add(511).add(23).add(1);
+        }
+        numbers.add(set(23)).add(22).add(1).add(set(22)).add(8).add(1);
+        numbers.add(0).add(1).add(511);
+        return digestOf(numbers.build().toArray());
+    }
+
+    /** What is told of all environments follows each change at once. */
+    private static void answersFollowChanges() {
+        AssumptionKeeper keeper = new AssumptionKeeper();
+        due("follow: the empty world", 0, () -> keeper.world(0));
+        keeper.addAssumption(1);
+        due("follow: a new assumption", 1, () -> keeper.world(0));
+        due("follow: its label", 1, () -> keeper.label(0, 0));
+        keeper.addRule(set(0), -1);
+        due("follow: a new rule", 0, () -> keeper.world(0));
+        keeper.addAssumption(1);
+        due("follow: a second assumption", 2, () -> keeper.world(0));
+        keeper.turn(0, false);
+        due("follow: a rule that is off", 3, () -> keeper.world(0));
+        keeper.turn(0, true);
+        due("follow: a rule that is on", 2, () -> keeper.world(0));
+        keeper.drop();
+        due("follow: a rule less", 3, () -> keeper.world(0));
+        keeper.addStatement();
+        due("follow: a new statement", 0, () -> keeper.labelSize(2));
+    }
+
+    /** The empty environment counts like every other one. */
+    private static void theEmptyEnvironment() {
+        AssumptionKeeper keeper = withStatements(2);
+        keeper.addRule(0, 0);
+        due("empty env: label", 0, () -> keeper.label(0, 0));
+        due("empty env: worldsWith", 1, () -> keeper.worldsWith(0));
+        due("empty env: belief", 1.0, () -> keeper.belief(0));
+        due("empty env: implies", false, () -> keeper.implies(0, 1));
+        due("empty env: excludes", false, () -> keeper.excludes(0, 0));
+        due("empty env: digest", digestOf(2, -1, 1, 0, -1, 0, 0, 1, 0, 0, 1, 0, 1, 0), keeper::digest);
+        keeper.addRule(0, -1);
+        due("empty env: digest with a nogood",
+                digestOf(2, -1, 0, -1, 0, 0, 2, 0, 0, 1, 0, -1, 1, 1, 0, 0), keeper::digest);
+    }
+
     private static void noNodeWhereThereIsNone() {
         AssumptionKeeper empty = new AssumptionKeeper();
         AssumptionKeeper full = withStatements(24);
@@ -586,6 +685,9 @@ public final class AssumptionKeeperPromises {
         promises30And31Relations();
         promise32Digest();
         noNodeWhereThereIsNone();
+        theFullKeeper();
+        answersFollowChanges();
+        theEmptyEnvironment();
         if (wrong > 0) {
             System.exit(1);
         }
