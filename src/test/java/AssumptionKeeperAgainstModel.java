@@ -1,9 +1,14 @@
 import java.util.ArrayList;
+import java.util.HashMap;
 import java.util.List;
+import java.util.Map;
 
 /**
  * Long runs of calls, right and wrong ones, compared with a second keeper that follows the words of the
  * document: it derives every environment from its rounds and compares every set with every other.
+ *
+ * Rules that are picked blindly soon contradict the empty environment, and then every label is empty and there is no
+ * world; so bodies and heads are picked with care, and the test counts how often its questions met something to tell.
  */
 public final class AssumptionKeeperAgainstModel {
     private static final int RUNS = 200;
@@ -11,6 +16,14 @@ public final class AssumptionKeeperAgainstModel {
 
     private static long seed = 20261118;
     private static int wrong = 0;
+
+    /** What the questions about all environments met; a comparison of empty answers alone would tell nothing. */
+    private static int questions = 0;
+    private static int withNothingConsistent = 0;
+    private static int withSeveralWorlds = 0;
+    private static int withSeveralNogoods = 0;
+    private static int labels = 0;
+    private static int labelsOfSeveral = 0;
 
     private static int pick(int bound) {
         seed = seed * 6364136223846793005L + 1442695040888963407L;
@@ -34,9 +47,13 @@ public final class AssumptionKeeperAgainstModel {
         final List<Integer> weights = new ArrayList<>();
         final List<Rule> rules = new ArrayList<>();
         private int[][] known;
+        private Boolean[] soundness;
+        private final Map<String, List<Integer>> families = new HashMap<>();
 
         void changed() {
             known = null;
+            soundness = null;
+            families.clear();
         }
 
         int all() {
@@ -110,6 +127,16 @@ public final class AssumptionKeeperAgainstModel {
         }
 
         boolean sound(int env) {
+            if (soundness == null) {
+                soundness = new Boolean[all()];
+            }
+            if (soundness[env] == null) {
+                soundness[env] = deriveSoundness(env);
+            }
+            return soundness[env];
+        }
+
+        private boolean deriveSoundness(int env) {
             for (Rule rule : rules) {
                 if (rule.isOn && rule.head < 0 && bodyBefore(rule, depths(env), Integer.MAX_VALUE)) {
                     return false;
@@ -156,6 +183,18 @@ public final class AssumptionKeeperAgainstModel {
         }
 
         List<Integer> label(int node) {
+            return families.computeIfAbsent("label " + node, name -> findLabel(node));
+        }
+
+        List<Integer> nogoods() {
+            return families.computeIfAbsent("nogoods", name -> findNogoods());
+        }
+
+        List<Integer> worlds() {
+            return families.computeIfAbsent("worlds", name -> findWorlds());
+        }
+
+        private List<Integer> findLabel(int node) {
             List<Integer> such = new ArrayList<>();
             for (int env = 0; env < all(); env++) {
                 if (sound(env) && holds(node, env)) {
@@ -165,7 +204,7 @@ public final class AssumptionKeeperAgainstModel {
             return least(such);
         }
 
-        List<Integer> nogoods() {
+        private List<Integer> findNogoods() {
             List<Integer> such = new ArrayList<>();
             for (int env = 0; env < all(); env++) {
                 if (!sound(env)) {
@@ -199,7 +238,7 @@ public final class AssumptionKeeperAgainstModel {
             return such;
         }
 
-        List<Integer> worlds() {
+        private List<Integer> findWorlds() {
             List<Integer> such = sounds();
             List<Integer> greatest = new ArrayList<>();
             for (int one : such) {
@@ -428,49 +467,111 @@ public final class AssumptionKeeperAgainstModel {
     }
 
     private static int odd(int usual) {
-        int[] odds = {-1, -2, 9, 24, 31, 32, 40, 512, Integer.MIN_VALUE, Integer.MAX_VALUE, usual + 1, -usual};
+        int[] odds = {-1, -2, 0, 9, 24, 31, 32, 40, 101, 512, Integer.MIN_VALUE, Integer.MAX_VALUE, usual + 1, -usual};
         return pick(40) == 0 ? odds[pick(odds.length)] : usual;
     }
 
-    private static int someBody(int nodes) {
+    /** Half of a body is picked from the assumptions, so that much of it can be made to hold. */
+    private static int someBody(Model model, int least) {
         int body = 0;
-        for (int i = pick(4); i > 0 && nodes > 0; i--) {
-            body |= 1 << pick(nodes);
+        for (int i = least + pick(2); i > 0 && !model.kinds.isEmpty(); i--) {
+            boolean fromAssumptions = !model.places.isEmpty() && pick(2) == 0;
+            body |= 1 << (fromAssumptions ? model.places.get(pick(model.places.size())) : pick(model.kinds.size()));
         }
         return body;
     }
 
-    private static int firstArgument(int kind, Model model, int soundness) {
+    /** A contradiction needs a greater body than another rule, so that small environments stay consistent. */
+    private static int someRuleBody(Model model, int head) {
+        if (pick(head == -1 ? 80 : 40) == 0) {
+            return 0;
+        }
+        return someBody(model, head == -1 ? 3 : 1);
+    }
+
+    /** Statements are derived more often than assumptions, which would follow from nothing otherwise. */
+    private static int someHead(Model model, int tension) {
+        int nodes = Math.max(1, model.kinds.size());
+        if (pick(tension) == 0) {
+            return -1;
+        }
+        int head = pick(nodes);
+        return head < model.kinds.size() && model.kinds.get(head) >= 0 && pick(4) > 0 ? pick(nodes) : head;
+    }
+
+    /** A number in a list of this size, now and then the one just behind its last. */
+    private static int someIndex(int size) {
+        return odd(pick(8) == 0 ? size : pick(Math.max(1, size)));
+    }
+
+    private static int someWeight() {
+        return odd(1 + pick(pick(2) == 0 ? 3 : 100));
+    }
+
+    private static int firstArgument(int kind, Model model, int second) {
         int nodes = Math.max(1, model.kinds.size());
         switch (kind) {
-            case 1: return odd(1 + pick(pick(2) == 0 ? 3 : 100));
+            case 1: return someWeight();
             case 2: case 9: return odd(pick(Math.max(1, model.places.size())));
-            case 3: return odd(someBody(nodes));
+            case 3: return odd(someRuleBody(model, second));
             case 4: return odd(pick(Math.max(1, model.rules.size())));
             case 13: case 14: case 15: case 16: return odd(pick(model.all()));
-            case 23: case 25: return odd(pick(1 + soundness));
+            case 23: return someIndex(model.nogoods().size());
+            case 25: return someIndex(model.worlds().size());
             default: return odd(pick(nodes));
         }
     }
 
-    private static int secondArgument(int kind, Model model, int soundness) {
+    private static int secondArgument(int kind, Model model, int tension) {
         int nodes = Math.max(1, model.kinds.size());
         switch (kind) {
-            case 2: return odd(1 + pick(pick(2) == 0 ? 3 : 100));
-            case 3: return pick(1 + soundness) == 0 ? -1 : odd(pick(nodes));
+            case 2: return someWeight();
+            case 3: return odd(someHead(model, tension));
             case 4: return pick(3);
             case 10: case 11: case 12: return odd(pick(model.all()));
-            case 18: return odd(pick(4));
             default: return odd(pick(nodes));
         }
+    }
+
+    private static int indexInLabel(Model model, int node) {
+        return someIndex(node >= 0 && node < model.kinds.size() ? model.label(node).size() : 0);
     }
 
     private static int nextKind(int made) {
-        if (made < 90 && pick(3) > 0) {
-            int[] building = {0, 0, 0, 1, 1, 3, 3, 3, 3, 4};
+        if (made < 90 && pick(4) > 0) {
+            int[] building = {0, 0, 1, 1, 3, 3, 3, 3};
             return building[pick(building.length)];
         }
         return pick(31);
+    }
+
+    private static void count(Model model, int kind, Object answer) {
+        if (kind < 17) {
+            return;
+        }
+        questions++;
+        withNothingConsistent += model.worlds().isEmpty() ? 1 : 0;
+        withSeveralWorlds += model.worlds().size() > 1 ? 1 : 0;
+        withSeveralNogoods += model.nogoods().size() > 1 ? 1 : 0;
+        if (kind == 17) {
+            labels++;
+            labelsOfSeveral += answer instanceof Integer size && size > 1 ? 1 : 0;
+        }
+    }
+
+    private static void requireShare(String what, int part, int whole, int leastPercent) {
+        if (part * 100L < (long) whole * leastPercent) {
+            wrong++;
+            System.out.println("the runs tell too little: " + part + " of " + whole + " " + what);
+        }
+    }
+
+    private static void requireTellingRuns() {
+        requireShare("questions met nothing consistent", withNothingConsistent, questions, 2);
+        requireShare("questions met something consistent", questions - withNothingConsistent, questions, 70);
+        requireShare("questions met several worlds", withSeveralWorlds, questions, 30);
+        requireShare("questions met several nogoods", withSeveralNogoods, questions, 30);
+        requireShare("labels had several environments", labelsOfSeveral, labels, 15);
     }
 
     private static Object answered(Model model, AssumptionKeeper keeper, int kind, int x, int y) {
@@ -484,13 +585,15 @@ public final class AssumptionKeeperAgainstModel {
     private static void run(int number) {
         Model model = new Model();
         AssumptionKeeper keeper = new AssumptionKeeper();
-        int soundness = 1 + pick(12);
+        int tension = 4 + pick(9);
         for (int made = 0; made < CALLS; made++) {
             int kind = nextKind(made);
-            int x = firstArgument(kind, model, soundness);
-            int y = secondArgument(kind, model, soundness);
+            int second = secondArgument(kind, model, tension);
+            int x = firstArgument(kind, model, second);
+            int y = kind == 18 ? indexInLabel(model, x) : second;
             Object want = answered(model, null, kind, x, y);
             Object got = answered(null, keeper, kind, x, y);
+            count(model, kind, want);
             if (!want.equals(got)) {
                 wrong++;
                 System.out.println("run " + number + ", call " + made + ": kind " + kind + " (" + x + ", " + y
@@ -504,6 +607,7 @@ public final class AssumptionKeeperAgainstModel {
         for (int number = 0; number < RUNS; number++) {
             run(number);
         }
+        requireTellingRuns();
         if (wrong > 0) {
             System.exit(1);
         }
